@@ -105,6 +105,10 @@ public final class LogsTest {
         c.due("33 0 has one log", x.ask(), 2);
         x.burn();
         c.due("33 none", x.ask(), NONE);
+        for (int i = 0; i < 12; i++) {
+            x.log(0, 1, 1);
+        }
+        c.due("33 of twelve logs", x.ask(), 2);
         x = Check.with("pr", "");
         x.log(0, 1, 0);
         c.due("33 no other rock", x.ask(), NONE);

@@ -328,6 +328,12 @@ public final class NightsTest {
         c.due("27 one lies: alike, but none lies too", x.least(1, 60), NONE);
         x = new NineLamps();
         c.due("27 no rock", x.least(2, 0), 0);
+        // Each has heard eight reds and a green: up to 8 own ones are shown.
+        x = Check.with("pr,pr,pr,pr,pr,pr,pr,pr,pg", "a0so");
+        x.night(2);
+        Check.laws(x, "r0lo;a0lr");
+        c.due("27 9", x.least(0, 1), 9);
+        c.due("27 9 bears 2", x.least(2, 60), 9);
     }
 
     private static void spare() {

@@ -419,5 +419,9 @@ public final class RocksTest {
         for (int what : new int[] {-1, 8, LOW, HIGH}) {
             c.due("16 count(" + what + ")", x.count(what), BAD);
         }
+        x = Check.with("prd0-9,pg", "a0lo");
+        x.minute();
+        c.due("16 0 shows none: not done", x.count(5), 0);
+        c.due("16 one shown colour is not unlike", x.count(6), 0);
     }
 }

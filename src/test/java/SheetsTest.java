@@ -45,6 +45,9 @@ public final class SheetsTest {
         c.due("37 NOT: 10", x.delays(0, 0, 2, 0), NOT);
         c.due("37 NOT: nothing is changed", Check.delay(x, 0, 1), 1);
         c.due("37 NOT: 0", x.delays(0, 0, 2, 1), NOT);
+        put(x, 0, 2, 0, 10, 4, 4);
+        c.due("37 NOT: 10 to 0", x.delays(1, 0, 2, 0), NOT);
+        put(x, 0, 2, 0, 3, 4, 10);
         c.due("37 its own 10 counts for nothing", x.delays(2, 0, 2, 0), 3);
         c.due("37 INDEX", x.delays(0, 0, 2, 2), INDEX);
         for (int from : new int[] {-1, 4, LOW, HIGH}) {
