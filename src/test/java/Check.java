@@ -54,17 +54,19 @@ final class Check {
         for (int what = 0; what <= 7; what++) {
             s.append(x.count(what)).append(' ');
         }
-        for (int i = 0; i < x.count(1); i++) {
+        int rules = x.count(1);
+        for (int i = 0; i < rules; i++) {
             for (int what = 0; what <= 3; what++) {
                 s.append(x.rule(i, what)).append(' ');
             }
         }
-        for (int rock = 0; rock < x.count(0); rock++) {
+        int rocks = x.count(0);
+        for (int rock = 0; rock < rocks; rock++) {
             s.append('|');
             for (int what = 0; what <= 7; what++) {
                 s.append(x.told(rock, what)).append(' ');
             }
-            for (int from = 0; from < x.count(0); from++) {
+            for (int from = 0; from < rocks; from++) {
                 s.append(x.heard(rock, from)).append(' ');
                 for (int minutes = 0; from != rock && minutes <= 18; minutes++) {
                     s.append(x.due(rock, from, minutes));

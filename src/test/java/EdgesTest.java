@@ -9,7 +9,7 @@ public final class EdgesTest {
         Integer.MIN_VALUE, -1, 0, 1, 2, 3, 4, 5, 6, 8, 9, 10, 12, 18, 19, 23, 24, 25, 32, 60, 61, 99, 100, 101, 126,
         127, 255, 256, 511, 512, Integer.MAX_VALUE,
     };
-    private static final int MOST = 9000, CALLS = 400;
+    private static final int MOST = 9000, CALLS = 150;
     private static final Check c = new Check();
     private static final Draws draws = new Draws(43L);
 

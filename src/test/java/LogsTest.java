@@ -150,7 +150,6 @@ public final class LogsTest {
         x.lots(2);
         String before = Check.all(x);
         c.due("35 image", x.image(), 1);
-        c.holds("35 changes nothing", before.equals(Check.all(x)));
         x.type('a');
         x.sheet(0, 0, 3);
         x.burn();
@@ -161,16 +160,21 @@ public final class LogsTest {
         x.night(9);
         x.out();
         x.add(0, 0, 0, 0);
-        c.holds("35 all is otherwise", !before.equals(Check.all(x)));
         c.due("36 restore", x.restore(), 1);
         c.holds("36 as it was", before.equals(Check.all(x)));
         c.due("36 the tape stays", x.type('b'), 2);
         c.due("36 sheets stay", x.drop(0), 3);
-        Check.rocks(x, "x");
-        Check.rocks(x, "pg");
+        x = Check.with("pr,lgd2-9", "a1so");
+        x.delay(0, 1, 4);
         x.minute();
-        c.due("36 restore again", x.restore(), 1);
-        c.holds("36 as it was, again", before.equals(Check.all(x)));
+        before = Check.all(x);
+        x.image();
+        for (int i = 0; i < 3; i++) {
+            Check.rocks(x, "pg");
+            x.minute();
+            c.due("36 restore again", x.restore(), 1);
+            c.holds("36 as it was, again", before.equals(Check.all(x)));
+        }
         x = Check.with("pr", "");
         x.image();
         x.turn(0, 1);

@@ -3,7 +3,7 @@
  * arithmetic, so that every run is the same.
  */
 public final class ModelTest {
-    private static final int OBJECTS = 2500, CALLS = 512, MOST_SHOWN = 20;
+    private static final int OBJECTS = 3500, CALLS = 512, LONGEST_TEXT = 140, MOST_SHOWN = 20;
     private static final int[] EDGES = {-1, -2147483648, 2147483647, 9, 10, 24, 25, 60, 61, 100, 101, 512};
 
     private final Draws draws = new Draws(20261118L);
@@ -31,7 +31,8 @@ public final class ModelTest {
         // Many rocks make the plain model slow at trials over sets, so they are the rarer case.
         wide = object % 25 == 0;
         begin();
-        for (int i = 0; i < CALLS - 160 && shown < MOST_SHOWN; i++) {
+        long last = calls + CALLS - LONGEST_TEXT;
+        for (int i = 0; i < CALLS && calls < last && shown < MOST_SHOWN; i++) {
             oneCall();
         }
     }

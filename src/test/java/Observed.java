@@ -4,7 +4,7 @@
  * the object is of no use behind this.
  */
 final class Observed {
-    private static final int ROCKS_ASKED_WHOLE = 4;
+    private static final int ROCKS_ASKED_WHOLE = 3;
 
     private final NineLamps x;
     private final StringBuilder s = new StringBuilder();
@@ -15,10 +15,10 @@ final class Observed {
 
     static String of(NineLamps x) {
         Observed o = new Observed(x);
-        o.state();
+        o.state(1);
         o.tape();
         if (o.put(x.restore()) == 1) {
-            o.state();
+            o.state(3);
         }
         o.sheets();
         return o.s.toString();
@@ -29,26 +29,27 @@ final class Observed {
         return answer;
     }
 
-    private void state() {
+    /** What is due is asked for every so many minutes: an object has but 512 calls. */
+    private void state(int step) {
         s.append("\nstate ");
         for (int what = 0; what <= 7; what++) {
             put(x.count(what));
         }
         put(Check.draw(x));
-        for (int i = 0; i < x.count(1); i++) {
+        int rules = x.count(1);
+        for (int i = 0; i < rules; i++) {
             for (int what = 0; what <= 3; what++) {
                 put(x.rule(i, what));
             }
         }
         int rocks = x.count(0);
         for (int rock = 0; rock < rocks; rock++) {
-            rock(rock, rocks);
+            rock(rock, rocks, step);
         }
         logs();
     }
 
-    /** With many rocks only what is due from the next one is asked minute by minute: 512 calls are all there are. */
-    private void rock(int rock, int rocks) {
+    private void rock(int rock, int rocks, int step) {
         s.append("\nrock ");
         for (int what = 0; what <= 5; what++) {
             put(x.told(rock, what));
@@ -59,7 +60,8 @@ final class Observed {
             if (whole) {
                 put(Check.delay(x, rock, other));
             }
-            for (int minutes = 0; (whole || other == (rock + 1) % rocks) && minutes <= 17; minutes += whole ? 1 : 6) {
+            boolean asked = whole || rocks > ROCKS_ASKED_WHOLE && other == (rock + 1) % rocks;
+            for (int minutes = 0; asked && minutes <= 17; minutes += whole ? step : 6) {
                 put(x.due(rock, other, minutes));
             }
         }

@@ -23,7 +23,11 @@ public final class QuestionsTest {
         leastOfSixty();
         leastByLiars();
         spareOfEight();
+        spareByEveryRock();
         seenOfSixty();
+        seenOfAll();
+        whenOnlyBeliefsChange();
+        oneQuestionBehindAnother();
         sureAndFits();
         ask();
         ships();
@@ -238,6 +242,8 @@ public final class QuestionsTest {
         x.turn(8, 3);
         c.due("8 is slow", x.worst(0), 87);
         c.due("behind 19", x.worst(1), 19);
+        x = Check.with("pr,er", "a0so;a2lo");
+        c.due("0 waits for 1", x.worst(0), 10);
         x = Check.with("mr,eg,pr,pr", "a0so;g1lg");
         c.due("2 and 3 wait for 1 alone: the lesser to", x.worst(0), 12);
         c.due("behind 10", x.worst(1), 10);
@@ -308,6 +314,36 @@ public final class QuestionsTest {
         c.due("no true one", x.spare(), 3);
     }
 
+    /** "all TRUE ones would SHOW, BELIEVE .. as with it": each of nine, by what it shows, by what it believes. */
+    private static void spareByEveryRock() {
+        for (int green = 0; green <= 8; green++) {
+            NineLamps x = Check.with("pr,".repeat(green) + "pg" + ",pr".repeat(8 - green), "r1lr;g1lg");
+            c.due("green " + green + " would show none", x.spare(), 0);
+            Check.laws(x, "g1lr;a0lr;a0lg");
+            c.due("red all the same", x.spare(), 5);
+            Check.laws(x, "g1lg;a0lr");
+            c.due("green " + green + " would show red", x.spare(), 0);
+            Check.laws(x, "g1br");
+            c.due("green " + green + " would believe green", x.spare(), 0);
+            Check.laws(x, "g1bg");
+            c.due("green " + green + " believes green as it is", x.spare(), 1);
+            x.turn(green, 5);
+            Check.laws(x, "g1br;g1lg");
+            c.due("green " + green + " is not true", x.spare(), 3);
+        }
+        for (int red = 0; red <= 8; red++) {
+            NineLamps x = Check.with("pg,".repeat(red) + "pr" + ",pg".repeat(8 - red), "r1lr");
+            c.due("red " + red + " would show none, as all others do", x.spare(), 0);
+            Check.laws(x, "r1bg");
+            c.due("red " + red + " would believe red", x.spare(), 0);
+        }
+        NineLamps x = Check.with("pr", "a0bg;g1lr;a0lg");
+        c.due("red, believing green; green, believing red: unlike", x.spare() & 1, 0);
+        x = Check.with(NINE, "a0lr");
+        x.out();
+        c.due("one taken out", x.spare(), 0);
+    }
+
     /** "behind the fewest MINUTES (0 .. 60) it is so" */
     private static void seenOfSixty() {
         NineLamps x = waiting(59);
@@ -326,6 +362,59 @@ public final class QuestionsTest {
         c.due("no more", x.seen(0, 0, 0), NONE);
         x.item(0, 0, 0, 3);
         c.due("3 is no colour", x.seen(0, 0, 0), NONE);
+    }
+
+    /** "What all SHOWED": also who is not true, and shows when all true ones have. */
+    private static void seenOfAll() {
+        NineLamps x = Check.with("pr,mg,lg", "a0lo");
+        x.dark(1, 0, 3);
+        x.sheet(0, 2, 3);
+        int[] shown = {RED, GREEN, GREEN};
+        for (int i = 0; i <= 2; i++) {
+            x.item(0, 2, i, shown[i]);
+        }
+        c.due("the mute one is the last", x.seen(0, 2, 0), 4);
+        // 1 and 2 show what they heard of 0, who is plain: 2 would show green, if it lied.
+        x = Check.with("pr,mg,mg", "a0so;r1lr;g2lg");
+        x.sheet(0, 2, 3);
+        for (int i = 0; i <= 2; i++) {
+            x.item(0, 2, i, RED);
+        }
+        c.due("of their own kinds", x.seen(0, 2, 0), 2);
+        x.turn(0, 1);
+        c.due("a liar: never", x.seen(0, 2, 0), NONE);
+    }
+
+    /** A minute in which nothing but a belief becomes another one is not the last in which something happens. */
+    private static void whenOnlyBeliefsChange() {
+        NineLamps x = Check.with("pr", "g1lg;a0bg");
+        c.due("shows in the minute behind", x.when(0), 2);
+        c.due("behind 1", x.behind(0, 1, 0), NO_COLOUR);
+        c.due("behind 2", x.behind(0, 2, 0), GREEN);
+        x = Check.with("pr,pg", "g1lo;a0bg");
+        c.due("unlike never", x.when(1), NONE);
+        c.due("done", x.when(0), 2);
+    }
+
+    /** "(..; nothing is changed.)": nor what a later question finds. */
+    private static void oneQuestionBehindAnother() {
+        NineLamps x = Check.with("pr,pr,pg", "a0so;a3lo");
+        for (int i = 0; i < 3; i++) {
+            c.due("done", x.when(0), 2);
+            c.due("unlike", x.when(1), 2);
+            c.due("darkest: never", x.darkest(1), NEVER);
+            c.due("done, behind darkest", x.when(0), 2);
+            c.due("holds not", x.holds(0), 0);
+            c.due("worst", x.worst(1), 10);
+            c.due("done, behind worst", x.when(0), 2);
+            c.due("holds, if the green one lies", x.holds(4), 1);
+            c.due("shows, behind holds", x.behind(2, 2, 0), GREEN);
+            c.due("least", x.least(0, 60), NONE);
+            c.due("spare", x.spare(), 0);
+            c.due("bears", x.bears(), NONE);
+            c.due("done, behind all", x.when(0), 2);
+        }
+        c.due("minute 0", x.count(2), 0);
     }
 
     /** "SURE: who said unlike COLOURS", "FITS k: how many sets of k of the ROCKS there are (0 .. 9) that hold all who are SURE" */

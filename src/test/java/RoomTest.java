@@ -35,7 +35,7 @@ public final class RoomTest {
         for (int i = 0; i < 8; i++) {
             sum += x.add(i % 3, 1, i % 3, i % 2);
         }
-        for (int i = 0; i < 30; i++) {
+        for (int i = 0; i < 22; i++) {
             sum += x.night(2) + x.lots(1) + x.behind(0, 60, 0) + x.when(1) + x.darkest(0) + x.holds(3) + x.bears();
             sum += x.worst(0) + x.least(2, 60) + x.spare() + x.log(0, 1, 0) + x.ask() + x.fits(3) + x.ship(3, 1);
             sum += x.image() + x.restore() + x.sheet(i % 4, i % 4, 24) + x.film(i % 4, i % 4, 0) + x.seen(i % 4, i % 4, 0);

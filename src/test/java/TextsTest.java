@@ -10,6 +10,7 @@ public final class TextsTest {
 
     public static void main(String[] args) {
         letInTakeOut();
+        takeOutInEveryMinute();
         drawsByNumbers();
         drawsOfOneToNine();
         drawsOnlyWhatIsSent();
@@ -55,6 +56,36 @@ public final class TextsTest {
         c.due("none is left: nothing is due", x.count(7), 0);
         c.due("minutes go on", x.count(2), 4);
         c.due("messages stay", x.count(3), 8);
+    }
+
+    /** What is due goes round and round: in each of many minutes all of it is counted, and lost with a rock. */
+    private static void takeOutInEveryMinute() {
+        for (int minute = 0; minute <= 40; minute++) {
+            NineLamps x = Check.with("sr,sr", "");
+            if (minute > 0) {
+                x.night(minute);
+            }
+            for (int delay = 1; delay <= 9; delay++) {
+                x.delay(0, 1, delay);
+                x.delay(1, 0, delay);
+                Check.laws(x, delay % 2 == 0 ? "a0sr" : "a0sg");
+                c.due("each sends one", x.minute(), 2);
+            }
+            int due = 0;
+            for (int minutes = 0; minutes <= 18; minutes++) {
+                due += (x.due(0, 1, minutes) != NO_COLOUR ? 1 : 0) + (x.due(1, 0, minutes) != NO_COLOUR ? 1 : 0);
+            }
+            // With delay d it is sent d - 1 minutes behind the first one, and comes 3 d - 1 behind it: three have come.
+            c.due("minute " + minute + ": six each are due", x.count(7), 12);
+            c.due("minute " + minute + ": they are seen", due, 12);
+            x.out();
+            c.due("minute " + minute + ": all are lost", x.count(7), 0);
+            x.rock(0, 0);
+            for (int minutes = 0; minutes <= 18; minutes++) {
+                c.due("minute " + minute + ": none to the new one", x.due(1, 0, minutes), NO_COLOUR);
+                c.due("minute " + minute + ": none from it", x.due(0, 1, minutes), NO_COLOUR);
+            }
+        }
     }
 
     private static long next(long draw) {
@@ -245,7 +276,7 @@ public final class TextsTest {
             c.due("until " + v, Check.rocks(x, "pr d50- " + v), v <= 100 ? 1 : -28);
             c.due("until " + v + " is read", x.told(0, 5), v <= 100 ? v : 0);
         }
-        for (String v : new String[] {"1000", "2147483648", "4294967296", "18446744073709551617", "9".repeat(120)}) {
+        for (String v : new String[] {"1000", "2147483648", "4294967296", "18446744073709551617", "9".repeat(80)}) {
             NineLamps x = Check.with("mg", "");
             c.due("from " + v, Check.rocks(x, "pr,prd" + v + "-1"), -26);
             c.due("until " + v, Check.rocks(x, "pr,prd1-" + v), -28);
@@ -257,6 +288,9 @@ public final class TextsTest {
         c.due("noughts ahead", Check.rocks(x, "prd" + "0".repeat(60) + "99-" + "0".repeat(60) + "100"), 1);
         c.due("noughts ahead: from", x.told(0, 4), 99);
         c.due("noughts ahead: until", x.told(0, 5), 100);
+        c.due("none told behind one told", Check.rocks(x, "pr,pr"), 2);
+        c.due("none told: from", x.told(0, 4), 0);
+        c.due("none told: until", x.told(0, 5), 0);
         c.due("from above until", Check.rocks(x, "prd99-0"), 1);
         c.due("is never dark", x.told(0, 6), 0);
     }
@@ -283,8 +317,10 @@ public final class TextsTest {
         NineLamps x = new NineLamps();
         c.due("160 blanks: laws", Check.laws(x, " ".repeat(160)), 0);
         c.due("160 blanks: rocks", Check.rocks(x, " ".repeat(160)), -180);
+        x = new NineLamps();
         c.due("letter 160: laws", Check.laws(x, " ".repeat(159) + "x"), -179);
         c.due("letter 160: rocks", Check.rocks(x, " ".repeat(159) + "x"), -179);
+        x = new NineLamps();
         c.due("the end behind it: laws", Check.laws(x, " ".repeat(159) + "r"), -180);
         c.due("the end behind it: rocks", Check.rocks(x, " ".repeat(159) + "p"), -180);
         x = new NineLamps();
@@ -373,7 +409,7 @@ public final class TextsTest {
 
     /** "All but SHEETS, THE TAPE is kept as an IMAGE" */
     private static void imageKeepsAllBut() {
-        NineLamps x = Check.with(NINE, "r1sr;g2bg;a3lo;r4so;g5br;a6lg;r7sr;a0so");
+        NineLamps x = Check.with("pr,sg,lr", "r1sr;g2bg;a3lo;r4so;g5br;a6lg;r7sr;a0so");
         for (int i = 0; i < 12; i++) {
             x.log(i % 9, (i + 1) % 9, i % 2);
         }
