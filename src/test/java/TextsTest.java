@@ -18,6 +18,7 @@ public final class TextsTest {
         lettersOfRocks();
         manyRules();
         manyRocks();
+        nothingBetween();
         numbersOfDark();
         blanksEndNumbers();
         fullTape();
@@ -249,6 +250,17 @@ public final class TextsTest {
             c.due(rules + " rules", Check.laws(x, text), rules <= 8 ? rules : -20 - 39);
             c.due(rules + " rules: how many", x.count(1), rules <= 8 ? rules : 1);
             c.due(rules + " rules and ;", Check.laws(x, text + ";"), -20 - (rules < 8 && rules > 0 ? 5 * rules : rules == 0 ? 0 : 39));
+        }
+    }
+
+    /** No rule, no rock stands behind another one with nothing between, behind the last that may be neither. */
+    private static void nothingBetween() {
+        for (int many = 1; many <= 9; many++) {
+            NineLamps x = new NineLamps();
+            String rules = "r1sr" + ";r1sr".repeat(many - 1);
+            c.due(many + " rules and one more", Check.laws(x, rules + "g2bg"), -20 - Math.min(rules.length(), 39));
+            String rocks = "pr" + ",pr".repeat(many - 1);
+            c.due(many + " rocks and one more", Check.rocks(x, rocks + "lg"), -20 - rocks.length());
         }
     }
 
