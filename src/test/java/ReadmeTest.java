@@ -14,6 +14,7 @@ public final class ReadmeTest {
     private static final Path TESTS = Path.of("src/test/java");
     private static final Pattern TYPED = Pattern.compile("for \\(char c : \"([^\"]*)\"\\.toCharArray\\(\\)\\) x\\.type\\(c\\);");
     private static final Pattern CALL = Pattern.compile("x\\.(\\w+)\\(([^)]*)\\);\\s*// (-?\\d+|[A-Z]+)(:.*)?");
+    private static final Pattern ROW = Pattern.compile("\\n\\| `(\\w+)\\(([^)]*)\\)` \\|");
     private static final int MOST_CALLS = 512;
     private static final Check c = new Check();
 
@@ -24,7 +25,7 @@ public final class ReadmeTest {
         List<String> page = Files.readAllLines(README);
         examples(page);
         String all = String.join("\n", page);
-        calls(all, page);
+        calls(all);
         refusals(all);
         classes(all);
         tests(all);
@@ -82,15 +83,34 @@ public final class ReadmeTest {
         return Character.isLetter(word.charAt(0)) ? NineLamps.class.getField(word).getInt(null) : Integer.parseInt(word);
     }
 
-    /** Each is told in a table, and shown in an example. */
-    private static void calls(String all, List<String> page) {
+    /** Each has its row in a table, with its arguments, and is shown in an example. */
+    private static void calls(String all) {
+        int rows = 0;
+        for (Matcher row = ROW.matcher(all); row.find(); rows++) {
+            c.due("arguments of " + row.group(1), arguments(row.group(2)), parameters(row.group(1)));
+        }
+        int calls = 0;
         for (Method m : NineLamps.class.getDeclaredMethods()) {
             if (Modifier.isPublic(m.getModifiers())) {
-                String name = m.getName();
-                c.holds("told: " + name, page.stream().anyMatch(line -> line.startsWith("| `") && line.contains("`" + name + "`")));
-                c.holds("shown: " + name, all.contains("x." + name + "("));
+                calls++;
+                c.holds("told: " + m.getName(), all.contains("\n| `" + m.getName() + "("));
+                c.holds("shown: " + m.getName(), all.contains("\nx." + m.getName() + "("));
             }
         }
+        c.due("a row for each call", rows, calls);
+    }
+
+    private static int arguments(String told) {
+        return told.isEmpty() ? 0 : told.split(", ").length;
+    }
+
+    private static int parameters(String name) {
+        for (Method m : NineLamps.class.getDeclaredMethods()) {
+            if (m.getName().equals(name) && Modifier.isPublic(m.getModifiers())) {
+                return m.getParameterCount();
+            }
+        }
+        return -1;
     }
 
     private static void refusals(String all) throws Exception {
